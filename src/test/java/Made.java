@@ -27,7 +27,7 @@ final class Made {
         return x;
     }
 
-    /** Fills the row with cells that do nothing: DESTROYs at relays that do not have circuit 3. */
+    /** Fills the row up to a size, with CREATEs and DESTROYs of circuit 3 to relay 4; both must be unused. */
     static void fill(OnionCells x, int size) {
         while (x.count(0) < size) {
             x.create(3, 4, 9);
