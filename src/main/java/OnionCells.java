@@ -536,7 +536,6 @@ public final class OnionCells {
             }
             for (int s = 0; s < STREAMS; s++) {
                 open[s] = false;
-                counts[s] = 0;
             }
         }
 
@@ -596,7 +595,11 @@ public final class OnionCells {
                 return false;
             }
             if (cell.sender == before) {
-                takesForward(cell);
+                keys[FORWARD] = cell.wrap(keys[FORWARD]);
+                boolean fits = cell.distance == 0 ? isKnown(cell) && follows(cell) : goesForward(cell);
+                if (!fits) {
+                    tearDown();
+                }
                 return true;
             }
             if (cell.sender == behind) {
@@ -607,23 +610,21 @@ public final class OnionCells {
             return false;
         }
 
-        private void takesForward(Cell cell) {
-            keys[FORWARD] = cell.wrap(keys[FORWARD]);
-            if (cell.distance > 0) {
-                if (behind == NOBODY) {
-                    tearDown();
-                } else {
-                    relayOn(cell, behind, cell.distance - 1);
-                }
-                return;
+        private boolean goesForward(Cell cell) {
+            if (behind == NOBODY) {
+                return false;
             }
+            relayOn(cell, behind, cell.distance - 1);
+            return true;
+        }
+
+        private boolean isKnown(Cell cell) {
             int fed = cell.fed(keys[DIGEST_FORWARD]);
-            if (cell.isKnownBy(fed)) {
+            boolean known = cell.isKnownBy(fed);
+            if (known) {
                 keys[DIGEST_FORWARD] = fed;
-                follow(cell);
-            } else {
-                tearDown();
             }
+            return known;
         }
 
         private void relayOn(Cell cell, int to, int distance) {
@@ -632,40 +633,40 @@ public final class OnionCells {
             on.distance = distance;
         }
 
-        private void follow(Cell cell) {
+        /** Whether the order is one that fits. */
+        private boolean follows(Cell cell) {
             int stream = cell.bytes[STREAM_AT];
             switch (cell.bytes[ORDER_AT]) {
                 case EXTEND:
-                    followExtend(cell);
-                    break;
+                    return followsExtend(cell);
                 case BEGIN:
                     followBegin(stream);
-                    break;
+                    return true;
                 case DATA:
                     followData(cell, stream);
-                    break;
+                    return true;
                 case END:
                     if (isOpen(stream)) {
                         open[stream - 1] = false;
                     }
-                    break;
+                    return true;
                 case TRUNCATE:
                     followTruncate();
-                    break;
+                    return true;
                 default:
-                    tearDown();
+                    return false;
             }
         }
 
-        private void followExtend(Cell cell) {
+        private boolean followsExtend(Cell cell) {
             int to = cell.bytes[DATA_AT];
             boolean isOther = to >= 1 && to <= RELAYS && to != node && to != before;
             if (!isOther || next() != NOBODY) {
-                tearDown();
-                return;
+                return false;
             }
             row.add(node, to, number, CREATE).putPair(0, cell.pair(DATA_AT + 1));
             waited = to;
+            return true;
         }
 
         private void followBegin(int stream) {
@@ -875,22 +876,35 @@ public final class OnionCells {
             if (hops > 0) {
                 return false;
             }
-            addHop(cell.pair(0), cell.pair(2));
+            if (!addsHop(cell.pair(0), cell.pair(2))) {
+                shut();
+            }
             return true;
         }
 
-        private void addHop(int publicY, int tag) {
+        private boolean takesRelay(Cell cell) {
+            if (hops == 0) {
+                return false;
+            }
+            if (!isKnown(cell) || !follows(cell, cell.distance)) {
+                shut();
+            }
+            return true;
+        }
+
+        /** Whether the tag fits, so that there is one hop more. */
+        private boolean addsHop(int publicY, int tag) {
             int s = Agreement.raise(publicY, exponent);
             int t = Agreement.raise(relays[waited - 1].publicKey, exponent);
             int h = Agreement.shared(s, t, Agreement.raise(BASE, exponent), publicY, waited);
             if (Agreement.tag(h) != tag) {
-                shut();
-                return;
+                return false;
             }
             Agreement.fillKeys(keys[hops], h);
             hopRelays[hops] = waited;
             hops++;
             becomeReady();
+            return true;
         }
 
         private void becomeReady() {
@@ -898,54 +912,41 @@ public final class OnionCells {
             waited = NOBODY;
         }
 
-        private boolean takesRelay(Cell cell) {
-            if (hops == 0) {
-                return false;
-            }
+        private boolean isKnown(Cell cell) {
             int hop = cell.distance;
-            if (hop >= hops) {
-                shut();
-                return true;
+            if (!hasHop(hop)) {
+                return false;
             }
             for (int k = 0; k <= hop; k++) {
                 keys[k][BACKWARD] = cell.wrap(keys[k][BACKWARD]);
             }
             int fed = cell.fed(keys[hop][DIGEST_BACKWARD]);
-            if (cell.isKnownBy(fed)) {
+            boolean known = cell.isKnownBy(fed);
+            if (known) {
                 keys[hop][DIGEST_BACKWARD] = fed;
-                follow(cell, hop);
-            } else {
-                shut();
             }
-            return true;
+            return known;
         }
 
-        private void follow(Cell cell, int hop) {
+        /** Whether the order is one that fits. */
+        private boolean follows(Cell cell, int hop) {
             switch (cell.bytes[ORDER_AT]) {
                 case EXTENDED:
-                    followExtended(cell, hop);
-                    break;
+                    return state == BUILDING && hop == hops - 1
+                            && addsHop(cell.pair(DATA_AT), cell.pair(DATA_AT + 2));
                 case CONNECTED:
                 case DATA:
                 case END:
                 case WINDOW:
                     followOfStream(cell, hop);
-                    break;
+                    return true;
                 case TRUNCATED:
                     hops = hop + 1;
                     dropStreamsFrom(hops);
                     becomeReady();
-                    break;
+                    return true;
                 default:
-                    shut();
-            }
-        }
-
-        private void followExtended(Cell cell, int hop) {
-            if (state == BUILDING && hop == hops - 1) {
-                addHop(cell.pair(DATA_AT), cell.pair(DATA_AT + 2));
-            } else {
-                shut();
+                    return false;
             }
         }
 

@@ -239,6 +239,11 @@ public final class AtClientTest {
         forge(end, Inside.END, 1, 0);
         end.deliver(1);
         Check.is("END of one ASKED", end.circuit(0, 6), 0);
+        OnionCells endOfOpen = Made.streaming(2, 0, 1);
+        forge(endOfOpen, Inside.END, 2, 0);
+        endOfOpen.deliver(1);
+        Check.is("END of one OPEN", endOfOpen.circuit(0, 7), 0);
+        Check.is("no window then", endOfOpen.circuit(0, 10), 0);
         OnionCells connected = Made.streaming(2, 0, 1);
         connected.send(0, 2, 1, 1);
         connected.deliver(2);

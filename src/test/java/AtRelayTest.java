@@ -20,6 +20,7 @@ public final class AtRelayTest {
         extendOrders();
         beginOrders();
         dataOrders();
+        windowGoesBack();
         endOrders();
         truncateOrders();
         otherOrders();
@@ -289,6 +290,10 @@ public final class AtRelayTest {
         Check.is("X, lower", good.cell(0, 5), 2);
         Check.is("waited for", good.relay(1, 0, 3), 4);
         Check.is("none behind", good.relay(1, 0, 2), -1);
+        OnionCells toFirst = Made.through(2);
+        toFirst.extend(0, 1, 5);
+        toFirst.deliver(1);
+        headIs(toFirst, 0, 2, 1, 1);
         OnionCells toBefore = Made.through(1, 2);
         int digest = toBefore.key(0, 1, 2);
         toBefore.begin(0, 1, 1);
@@ -367,6 +372,19 @@ public final class AtRelayTest {
         }
     }
 
+    private static void windowGoesBack() {
+        OnionCells x = Made.streaming(2, 0, 1);
+        x.send(0, 2, 0, 0);
+        x.send(0, 2, 0, 0);
+        x.deliver(1);
+        int digest = x.relay(1, 0, 10);
+        int wrapping = x.relay(1, 0, 8);
+        x.deliver(1);
+        backIs(x, 1, digest, wrapping, Inside.DATA, 2, 0);
+        int[] echo = Inside.sealed(digest, Inside.DATA, 2, 0);
+        backIs(x, 2, Inside.digestAfter(digest, echo), Inside.keyAfterWrap(wrapping), Inside.WINDOW, 2, 0);
+    }
+
     private static void endOrders() {
         OnionCells x = Made.streaming(2, 0, 1);
         forge(x, Inside.END, 2, 0);
@@ -404,6 +422,12 @@ public final class AtRelayTest {
     }
 
     private static void leavesNothingBehind() {
+        OnionCells waiting = Made.streaming(1, 0, 1);
+        waiting.extend(0, 2, 5);
+        waiting.close(0);
+        waiting.deliver(2);
+        Check.is("none is waited for", waiting.relay(1, 0, 3), -1);
+        Check.is("stream 1 is not open", waiting.relay(1, 0, 4), 0);
         OnionCells x = Made.streaming(2, 0, 1, 2);
         x.send(0, 2, 1, 1);
         x.deliver(100);

@@ -51,6 +51,12 @@ public final class CircuitCallsTest {
         x.close(3);
         x.deliver(2);
         Check.is("secret of a relay that is free again", x.secret(1, 8), Inside.raise(17, 8));
+        for (int circuit = 0; circuit < 4; circuit++) {
+            OnionCells y = new OnionCells();
+            y.create(circuit, 3, 5);
+            y.deliver(1);
+            Check.state("secret with circuit " + circuit, () -> y.secret(3, 8));
+        }
     }
 
     private static void secretCountsInTheAgreement() {
@@ -184,7 +190,16 @@ public final class CircuitCallsTest {
         x.deliver(1);
         cellIs(x, 0, 1, 3, 0, 1, publicX >> 8, publicX & 255);
         Check.is("waited for", x.relay(1, 0, 3), 3);
+        int digest = x.relay(1, 0, 10);
+        int wrapping = x.relay(1, 0, 8);
         x.deliver(2);
+        int h = Inside.agreed(3, 3000, publicX, 0);
+        int publicY = Inside.publicY(3, publicX, 0);
+        int[] due = Inside.wrapped(wrapping, Inside.sealed(digest, Inside.EXTENDED, 0, 4,
+                publicY >> 8, publicY & 255, h >>> 24, h >>> 16 & 255));
+        for (int k = 0; k < 14; k++) {
+            Check.is("byte " + k + " of EXTENDED", x.cell(0, 4 + k), due[k]);
+        }
         Check.is("behind", x.relay(1, 0, 2), 3);
         Check.is("not waited for", x.relay(1, 0, 3), -1);
         Check.is("before", x.relay(3, 0, 1), 1);
@@ -192,7 +207,7 @@ public final class CircuitCallsTest {
         Check.is("READY", x.circuit(0, 0), OnionCells.READY);
         Check.is("second hop", x.circuit(0, 3), 3);
         Check.is("waits no more", x.circuit(0, 5), -1);
-        keysAre(x, 0, 1, 3, Inside.agreed(3, 3000, publicX, 0));
+        keysAre(x, 0, 1, 3, h);
         Check.is("both ends have the first hop's key 3", x.key(0, 0, 3), x.relay(1, 0, 10));
     }
 
