@@ -130,8 +130,9 @@ public final class AtClientTest {
         int outer = x.key(0, 0, 1);
         Check.is("READY yet", x.circuit(0, 0), OnionCells.READY);
         Check.is("distance 1", x.cell(0, 18), 1);
+        x.damage(0, 4, x.cell(0, 8) ^ Inside.TRUNCATED);
         x.deliver(1);
-        closedWithDestroy(x, "a hop that is not there");
+        closedWithDestroy(x, "a hop that is not there, whatever the order looks like");
         Check.is("nothing was unwrapped", x.key(0, 0, 1), outer);
     }
 
