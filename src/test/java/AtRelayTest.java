@@ -5,34 +5,55 @@ public final class AtRelayTest {
 
     public static void main(String[] args) {
         createThatDoesNotFit();
-        createOfOneThatIsThere();
-        createdThatIsNotWaitedFor();
-        relayFromNobody();
+        createThatFits();
         unknownTearsDown();
         firstPairMustBeZero();
+        distanceAboveZeroIsNotFollowed();
+        damagedGoesPastOthers();
         distanceWithoutNodeBehind();
+        distanceWithOneWaitedForAlone();
+        tearDownWithNoneBehind();
         tearDownReachesBothSides();
         tearDownReachesTheOneWaitedFor();
+        destroyFromBefore();
         destroyFromBehind();
         destroyFromTheOneWaitedFor();
         destroyGoesOnAsItIs();
-        destroyFromNobody();
-        extendOrders();
-        beginOrders();
-        dataOrders();
-        windowGoesBack();
+        extendToNoRelay();
+        extendToNoRelayFromTheSecond();
+        extendToItself();
+        extendToTheNodeBefore();
+        extendWithOneBehind();
+        extendWithOneWaitedFor();
+        extendThatFits();
+        beginOfNoStream();
+        beginOfOneThatIsOpen();
+        beginAfterEnd();
+        dataOfOneNotOpen();
+        dataOfAnyLength();
+        windowBehindEverySecond();
         endOrders();
-        truncateOrders();
+        truncateWithNone();
+        truncateWithOneBehind();
+        truncateWithOneWaitedFor();
         otherOrders();
         leavesNothingBehind();
-        relayRefuses();
+        relayTellsEachHop();
         Check.finish();
     }
 
     /** BEGIN of stream 1 to hop 0 is the only cell on its way, and becomes another order. */
     private static void forge(OnionCells x, int order, int stream, int length, int... data) {
-        int digest = x.key(0, 0, 2);
-        x.begin(0, 1, 0);
+        forgeTo(0, x, order, stream, length, data);
+    }
+
+    private static void forgeToSecond(OnionCells x, int order, int stream, int length, int... data) {
+        forgeTo(1, x, order, stream, length, data);
+    }
+
+    private static void forgeTo(int hop, OnionCells x, int order, int stream, int length, int... data) {
+        int digest = x.key(0, hop, 2);
+        x.begin(0, 1, hop);
         Inside.swap(x, 0, Inside.sealed(digest, Inside.BEGIN, 1, 0),
                 Inside.sealed(digest, order, stream, length, data));
     }
@@ -53,75 +74,40 @@ public final class AtRelayTest {
         Check.is("distance of the order " + order, x.cell(i, 18), 0);
     }
 
+    private static OnionCells createWith(int publicX) {
+        OnionCells x = new OnionCells();
+        x.create(1, 2, 5);
+        x.damage(0, 0, x.cell(0, 4) ^ publicX >> 8);
+        x.damage(0, 1, x.cell(0, 5) ^ publicX & 255);
+        x.deliver(1);
+        return x;
+    }
+
+    /** "(X 0, or above 65520: DESTROY back to the sender)". */
     private static void createThatDoesNotFit() {
-        for (int publicX : new int[] {0, 65521, 65535}) {
-            OnionCells x = new OnionCells();
-            x.create(1, 2, 5);
-            x.damage(0, 0, x.cell(0, 4) ^ publicX >> 8);
-            x.damage(0, 1, x.cell(0, 5) ^ publicX & 255);
-            x.deliver(1);
+        for (int publicX : new int[] {0, 65521, 65522, 65535}) {
+            OnionCells x = createWith(publicX);
+            Check.is("DESTROY alone", x.count(0), 1);
             headIs(x, 0, 2, 0, 4);
             Check.is("its circuit", x.cell(0, 2), 1);
             Check.is("not there", x.relay(2, 1, 0), 0);
             Check.is("not stray", x.count(3), 0);
         }
-        OnionCells x = new OnionCells();
-        x.create(1, 2, 5);
-        x.damage(0, 0, x.cell(0, 4) ^ 255);
-        x.damage(0, 1, x.cell(0, 5) ^ 240);
-        x.deliver(1);
-        headIs(x, 0, 2, 0, 2);
-        Check.is("65520 fits", x.relay(2, 1, 0), 1);
     }
 
-    private static void createOfOneThatIsThere() {
-        OnionCells x = Made.through(1);
-        int key = x.relay(1, 0, 7);
-        x.close(0);
-        x.lose(0);
-        x.create(0, 1, 6);
-        x.deliver(1);
-        Check.is("stray", x.count(3), 1);
-        Check.is("no answer", x.count(0), 0);
-        Check.is("as it was", x.relay(1, 0, 7), key);
-        Check.is("BUILDING still", x.circuit(0, 0), OnionCells.BUILDING);
+    /** "(X 0, or above 65520: ..)": the lowest and the highest that fit. */
+    private static void createThatFits() {
+        for (int publicX : new int[] {1, 2, 65519, 65520}) {
+            OnionCells x = createWith(publicX);
+            headIs(x, 0, 2, 0, 2);
+            int h = Inside.agreed(2, 2000, publicX, 0);
+            for (int k = 0; k < 4; k++) {
+                Check.is("key " + k + " with the X " + publicX, x.relay(2, 1, 7 + k), Inside.key(h, k));
+            }
+        }
     }
 
-    private static void createdThatIsNotWaitedFor() {
-        OnionCells x = Made.through(1);
-        x.extend(0, 2, 5);
-        x.deliver(1);
-        x.truncate(0, 0);
-        x.deliver(2);
-        headIs(x, 0, 2, 1, 2);
-        x.deliver(1);
-        Check.is("stray", x.count(3), 1);
-        Check.is("none behind", x.relay(1, 0, 2), -1);
-        Check.is("DESTROY and TRUNCATED alone", x.count(0), 2);
-    }
-
-    private static void relayFromNobody() {
-        OnionCells x = Made.through(1, 2);
-        x.begin(0, 1, 1);
-        x.truncate(0, 0);
-        x.deliver(5);
-        headIs(x, 0, 2, 1, 3);
-        int key = x.relay(1, 0, 8);
-        x.deliver(1);
-        Check.is("RELAY from a node that is not behind any more is stray", x.count(3), 1);
-        Check.is("no key moves", x.relay(1, 0, 8), key);
-        Check.is("nothing goes on", x.count(0), 0);
-        OnionCells y = Made.through(1);
-        y.begin(0, 1, 0);
-        y.begin(0, 2, 0);
-        y.damage(0, 13, 1);
-        y.deliver(1);
-        Check.is("torn down", y.relay(1, 0, 0), 0);
-        y.deliver(1);
-        Check.is("RELAY without the circuit is stray", y.count(3), 1);
-        Check.is("DESTROY alone", y.count(0), 1);
-    }
-
+    /** "RELAY .. from the node before: .. if its distance is 0 and it is known ..; otherwise .. torn down". */
     private static void unknownTearsDown() {
         for (int k = 0; k < 14; k++) {
             OnionCells x = Made.through(1);
@@ -139,24 +125,53 @@ public final class AtRelayTest {
         }
     }
 
-    /** The check fits, but the first pair is not 0. */
+    /** "It is KNOWN by a digest key if the first pair is 0": the check alone would fit. */
     private static void firstPairMustBeZero() {
         for (int at = 0; at < 2; at++) {
             OnionCells x = Made.through(1);
             int digest = x.key(0, 0, 2);
             x.begin(0, 1, 0);
             int[] was = Inside.sealed(digest, Inside.BEGIN, 1, 0);
-            int[] becomes = was.clone();
-            becomes[at] = 9;
-            int check = Inside.digestAfter(digest, becomes) >>> 16;
-            becomes[2] = check >> 8;
-            becomes[3] = check & 255;
-            Inside.swap(x, 0, was, becomes);
+            Inside.swap(x, 0, was, Inside.resealed(digest, was, at, 9));
             x.deliver(1);
             Check.is("torn down", x.relay(1, 0, 0), 0);
         }
     }
 
+    /** "if its distance is 0 and it is known": one that the first relay would know, with a distance above 0. */
+    private static void distanceAboveZeroIsNotFollowed() {
+        OnionCells x = Made.through(1, 2);
+        int digest = x.key(0, 0, 2);
+        int innerDigest = x.key(0, 1, 2);
+        int inner = x.key(0, 1, 0);
+        x.begin(0, 1, 1);
+        Inside.swap(x, 0, Inside.wrapped(inner, Inside.sealed(innerDigest, Inside.BEGIN, 1, 0)),
+                Inside.sealed(digest, Inside.BEGIN, 1, 0));
+        x.deliver(1);
+        headIs(x, 0, 1, 2, 3);
+        Check.is("its distance", x.cell(0, 18), 0);
+        Check.is("it does go on as an order that relay 1 would know", x.cell(0, 8), Inside.BEGIN);
+        Check.is("no stream is open", x.relay(1, 0, 4), 0);
+        Check.is("the digest key is as it was", x.relay(1, 0, 9), digest);
+    }
+
+    /** "if its distance is above 0 and there is a node behind, it goes on": damaged ones, too. */
+    private static void damagedGoesPastOthers() {
+        OnionCells x = Made.through(1, 2, 3);
+        x.begin(0, 1, 2);
+        x.damage(0, 0, 255);
+        x.damage(0, 4, 255);
+        x.deliver(2);
+        headIs(x, 0, 2, 3, 3);
+        Check.is("one cell", x.count(0), 1);
+        Check.is("there at 1", x.relay(1, 0, 0), 1);
+        Check.is("there at 2", x.relay(2, 0, 0), 1);
+        x.deliver(1);
+        Check.is("torn down at 3", x.relay(3, 0, 0), 0);
+        headIs(x, 0, 3, 2, 4);
+    }
+
+    /** "if its distance is above 0 and there is a node behind ..; otherwise the circuit is torn down": there is none. */
     private static void distanceWithoutNodeBehind() {
         OnionCells x = Made.through(1, 2);
         x.truncate(0, 0);
@@ -170,6 +185,39 @@ public final class AtRelayTest {
         Check.is("CLOSED", x.circuit(0, 0), OnionCells.CLOSED);
     }
 
+    /** The same: one that is waited for is not behind yet. */
+    private static void distanceWithOneWaitedForAlone() {
+        OnionCells x = Made.through(1, 2);
+        x.truncate(0, 0);
+        int digest = x.key(0, 0, 2);
+        x.begin(0, 1, 0);
+        Inside.swap(x, 1, Inside.sealed(digest, Inside.BEGIN, 1, 0),
+                Inside.sealed(digest, Inside.EXTEND, 0, 3, 3, 0, 17));
+        x.begin(0, 2, 1);
+        x.deliver(2);
+        Check.is("waits for relay 3", x.relay(1, 0, 3), 3);
+        x.deliver(1);
+        Check.is("torn down", x.relay(1, 0, 0), 0);
+        int last = x.count(0) - 1;
+        headIs(x, last - 1, 1, 0, 4);
+        headIs(x, last, 1, 3, 4);
+    }
+
+    /** "TEARING it down at a relay: DESTROY to the node before; then ..., if there is one". */
+    private static void tearDownWithNoneBehind() {
+        OnionCells x = Made.through(1, 2);
+        x.begin(0, 1, 1);
+        x.damage(0, 1, 1);
+        x.deliver(2);
+        Check.is("one DESTROY", x.count(0), 1);
+        headIs(x, 0, 2, 1, 4);
+        for (int k = 0; k < 14; k++) {
+            Check.is("byte " + k + " of DESTROY", x.cell(0, 4 + k), 0);
+        }
+        Check.is("not there any more", x.relay(2, 0, 0), 0);
+    }
+
+    /** "TEARING it down at a relay: DESTROY to the node before; then to the one behind". */
     private static void tearDownReachesBothSides() {
         OnionCells x = Made.through(1, 2, 3);
         x.begin(0, 1, 1);
@@ -189,6 +237,7 @@ public final class AtRelayTest {
         Check.is("nothing stray", x.count(3), 0);
     }
 
+    /** "TEARING it down at a relay: .. or else the one that is waited for". */
     private static void tearDownReachesTheOneWaitedFor() {
         OnionCells x = Made.through(1);
         x.extend(0, 2, 5);
@@ -206,6 +255,29 @@ public final class AtRelayTest {
         Check.is("nothing else is stray", x.count(3), 1);
     }
 
+    /** "DESTROY .. from the node before: it goes on to the node behind, or else the one waited for, if there is one". */
+    private static void destroyFromBefore() {
+        OnionCells behind = Made.through(1, 2);
+        behind.close(0);
+        behind.deliver(1);
+        Check.is("not there any more", behind.relay(1, 0, 0), 0);
+        Check.is("one DESTROY", behind.count(0), 1);
+        headIs(behind, 0, 1, 2, 4);
+        behind.deliver(1);
+        Check.is("gone at the last", behind.relay(2, 0, 0), 0);
+        Check.is("none behind that", behind.count(0), 0);
+        OnionCells waited = Made.through(1);
+        waited.extend(0, 3, 5);
+        waited.deliver(1);
+        waited.lose(0);
+        waited.close(0);
+        waited.deliver(1);
+        Check.is("gone, though one was waited for", waited.relay(1, 0, 0), 0);
+        Check.is("one DESTROY", waited.count(0), 1);
+        headIs(waited, 0, 1, 3, 4);
+    }
+
+    /** "DESTROY .. from the node behind ..: it goes on to the node before". */
     private static void destroyFromBehind() {
         OnionCells x = Made.through(1, 2, 3);
         x.begin(0, 1, 2);
@@ -222,6 +294,7 @@ public final class AtRelayTest {
         Check.is("nothing more", x.count(0), 0);
     }
 
+    /** "DESTROY .. from .. the one waited for: it goes on to the node before". */
     private static void destroyFromTheOneWaitedFor() {
         OnionCells x = Made.through(1);
         x.extend(0, 2, 5);
@@ -238,6 +311,7 @@ public final class AtRelayTest {
         Check.is("waits no more", x.circuit(0, 5), -1);
     }
 
+    /** "DESTROY .. it goes on": read as the cell itself, with the bytes that it has. */
     private static void destroyGoesOnAsItIs() {
         OnionCells x = Made.through(1, 2);
         x.close(0);
@@ -248,143 +322,210 @@ public final class AtRelayTest {
         Check.is("another", x.cell(0, 8), 0);
     }
 
-    private static void destroyFromNobody() {
-        OnionCells x = Made.through(1, 2);
-        x.truncate(0, 0);
+    private static void extendIsRefused(OnionCells x, String why, int... receivers) {
         x.deliver(1);
-        x.lose(0);
-        x.deliver(1);
-        x.extend(0, 3, 5);
-        x.deliver(4);
-        x.extend(0, 4, 5);
-        x.deliver(100);
-        Check.is("three hops, the old relay 2 beside them", x.circuit(0, 1), 3);
-        Check.is("relay 2 is there still", x.relay(2, 0, 0), 1);
-        x.close(0);
-        x.deliver(100);
-        Check.is("no DESTROY reaches it", x.relay(2, 0, 0), 1);
-        x.create(0, 2, 5);
-        x.deliver(1);
-        Check.is("CREATE is stray there", x.count(3), 1);
-        x.close(0);
-        x.deliver(1);
-        Check.is("DESTROY from a node that is not before it is stray, too", x.count(3), 2);
-        Check.is("relay 2 is there yet", x.relay(2, 0, 0), 1);
-        Check.is("before is relay 1", x.relay(2, 0, 1), 1);
+        Check.is("torn down by EXTEND " + why, x.relay(1, 0, 0), 0);
+        int first = x.count(0) - receivers.length;
+        for (int i = 0; i < receivers.length; i++) {
+            headIs(x, first + i, 1, receivers[i], 4);
+        }
     }
 
-    private static void extendOrders() {
-        for (int to : new int[] {0, 1, 5, 255}) {
+    /** "1 EXTEND ..: if that is a relay 1 .. 4 ..; else the circuit is torn down." */
+    private static void extendToNoRelay() {
+        for (int to : new int[] {0, 5, 255}) {
             OnionCells x = Made.through(1);
             forge(x, Inside.EXTEND, 0, 3, to, 0, 17);
-            x.deliver(1);
-            Check.is("torn down by EXTEND to " + to, x.relay(1, 0, 0), 0);
-            headIs(x, 0, 1, 0, 4);
+            extendIsRefused(x, "to " + to, 0);
             Check.is("DESTROY alone", x.count(0), 1);
         }
-        OnionCells good = Made.through(1);
-        forge(good, Inside.EXTEND, 0, 3, 4, 1, 2);
-        good.deliver(1);
-        headIs(good, 0, 1, 4, 1);
-        Check.is("X, higher", good.cell(0, 4), 1);
-        Check.is("X, lower", good.cell(0, 5), 2);
-        Check.is("waited for", good.relay(1, 0, 3), 4);
-        Check.is("none behind", good.relay(1, 0, 2), -1);
+    }
+
+    /** The same at the second hop, before which stands a relay: the client is no relay there either. */
+    private static void extendToNoRelayFromTheSecond() {
+        for (int to : new int[] {0, 5}) {
+            OnionCells x = Made.through(1, 2);
+            forgeToSecond(x, Inside.EXTEND, 0, 3, to, 0, 17);
+            x.deliver(2);
+            Check.is("torn down by EXTEND to " + to, x.relay(2, 0, 0), 0);
+            Check.is("DESTROY alone", x.count(0), 1);
+            headIs(x, 0, 2, 1, 4);
+        }
+    }
+
+    /** "1 EXTEND ..: if that is .. not itself ..; else the circuit is torn down." */
+    private static void extendToItself() {
+        OnionCells x = Made.through(1);
+        forge(x, Inside.EXTEND, 0, 3, 1, 0, 17);
+        extendIsRefused(x, "to itself", 0);
+        Check.is("DESTROY alone", x.count(0), 1);
+    }
+
+    /** "1 EXTEND ..: if that is .. not the node before ..; else the circuit is torn down." */
+    private static void extendToTheNodeBefore() {
+        OnionCells x = Made.through(1, 2);
+        forgeToSecond(x, Inside.EXTEND, 0, 3, 1, 0, 17);
+        x.deliver(2);
+        Check.is("torn down by EXTEND to the node before", x.relay(2, 0, 0), 0);
+        Check.is("DESTROY alone", x.count(0), 1);
+        headIs(x, 0, 2, 1, 4);
+    }
+
+    /** "1 EXTEND ..: if .. there is none behind ..; else the circuit is torn down." */
+    private static void extendWithOneBehind() {
+        for (int to : new int[] {2, 3}) {
+            OnionCells x = Made.through(1, 2);
+            forge(x, Inside.EXTEND, 0, 3, to, 0, 17);
+            extendIsRefused(x, "with one behind", 0, 2);
+            Check.is("two DESTROYs alone", x.count(0), 2);
+        }
+    }
+
+    /** "1 EXTEND ..: if .. there is none .. waited for ..; else the circuit is torn down." */
+    private static void extendWithOneWaitedFor() {
+        for (int to : new int[] {2, 3}) {
+            OnionCells x = Made.through(1);
+            x.extend(0, 2, 5);
+            int digest = x.key(0, 0, 2);
+            x.truncate(0, 0);
+            Inside.swap(x, 1, Inside.sealed(digest, Inside.TRUNCATE, 0, 0),
+                    Inside.sealed(digest, Inside.EXTEND, 0, 3, to, 0, 17));
+            x.deliver(1);
+            extendIsRefused(x, "with one waited for", 0, 2);
+            Check.is("CREATE and two DESTROYs", x.count(0), 3);
+        }
+    }
+
+    /** "1 EXTEND, data: a node and a pair X: if that is a relay 1 .. 4 ..: CREATE with X to it, and it is waited for". */
+    private static void extendThatFits() {
+        for (int to = 2; to <= 4; to++) {
+            OnionCells x = Made.through(1);
+            forge(x, Inside.EXTEND, 0, 3, to, 1, 2);
+            x.deliver(1);
+            Check.is("CREATE alone", x.count(0), 1);
+            headIs(x, 0, 1, to, 1);
+            Check.is("X, higher", x.cell(0, 4), 1);
+            Check.is("X, lower", x.cell(0, 5), 2);
+            Check.is("waited for", x.relay(1, 0, 3), to);
+            Check.is("none behind", x.relay(1, 0, 2), -1);
+        }
         OnionCells toFirst = Made.through(2);
         toFirst.extend(0, 1, 5);
         toFirst.deliver(1);
         headIs(toFirst, 0, 2, 1, 1);
-        OnionCells toBefore = Made.through(1, 2);
-        int digest = toBefore.key(0, 1, 2);
-        toBefore.begin(0, 1, 1);
-        Inside.swap(toBefore, 0, Inside.sealed(digest, Inside.BEGIN, 1, 0),
-                Inside.sealed(digest, Inside.EXTEND, 0, 3, 1, 0, 17));
-        toBefore.deliver(2);
-        Check.is("torn down by EXTEND to the node before", toBefore.relay(2, 0, 0), 0);
-        OnionCells withBehind = Made.through(1, 2);
-        forge(withBehind, Inside.EXTEND, 0, 3, 3, 0, 17);
-        withBehind.deliver(1);
-        Check.is("torn down with one behind", withBehind.relay(1, 0, 0), 0);
-        headIs(withBehind, 0, 1, 0, 4);
-        headIs(withBehind, 1, 1, 2, 4);
-        OnionCells withWaited = Made.through(1);
-        int first = withWaited.key(0, 0, 2);
-        withWaited.extend(0, 2, 5);
-        int second = withWaited.key(0, 0, 2);
-        withWaited.truncate(0, 0);
-        Check.holds("the digest key runs", first != second);
-        Inside.swap(withWaited, 1, Inside.sealed(second, Inside.TRUNCATE, 0, 0),
-                Inside.sealed(second, Inside.EXTEND, 0, 3, 3, 0, 17));
-        withWaited.deliver(2);
-        Check.is("torn down with one waited for", withWaited.relay(1, 0, 0), 0);
-        headIs(withWaited, 1, 1, 0, 4);
-        headIs(withWaited, 2, 1, 2, 4);
     }
 
-    private static void beginOrders() {
+    /** "3 BEGIN of a stream: if it is 1 .. 3 ..; else END of it." */
+    private static void beginOfNoStream() {
         for (int stream : new int[] {0, 4, 255}) {
             OnionCells x = Made.through(1);
             int digest = x.relay(1, 0, 10);
             int wrapping = x.relay(1, 0, 8);
             forge(x, Inside.BEGIN, stream, 0);
             x.deliver(1);
+            Check.is("one answer", x.count(0), 1);
             backIs(x, 0, digest, wrapping, Inside.END, stream, 0);
             Check.is("there still", x.relay(1, 0, 0), 1);
             x.deliver(1);
             Check.is("READY still", x.circuit(0, 0), OnionCells.READY);
         }
+        for (int stream = 1; stream <= 3; stream++) {
+            OnionCells x = Made.through(1);
+            int digest = x.relay(1, 0, 10);
+            int wrapping = x.relay(1, 0, 8);
+            forge(x, Inside.BEGIN, stream, 0);
+            x.deliver(1);
+            backIs(x, 0, digest, wrapping, Inside.CONNECTED, stream, 0);
+            for (int s = 1; s <= 3; s++) {
+                Check.is("stream " + s, x.relay(1, 0, 3 + s), s == stream ? 1 : 0);
+            }
+        }
+    }
+
+    /** "3 BEGIN of a stream: if it is .. not open ..; else END of it": it stays open, with its count. */
+    private static void beginOfOneThatIsOpen() {
         OnionCells x = Made.streaming(2, 0, 1);
+        x.send(0, 2, 1, 1);
+        x.deliver(2);
         int digest = x.relay(1, 0, 10);
         int wrapping = x.relay(1, 0, 8);
         forge(x, Inside.BEGIN, 2, 0);
+        int digestOfClient = x.key(0, 0, 2);
+        x.send(0, 2, 1, 1);
         x.deliver(1);
-        backIs(x, 0, digest, wrapping, Inside.END, 2, 0);
+        backIs(x, 1, digest, wrapping, Inside.END, 2, 0);
         Check.is("open still at the relay", x.relay(1, 0, 5), 1);
+        Inside.swap(x, 0, Inside.sealed(digestOfClient, Inside.DATA, 2, 1, 1),
+                Inside.sealed(x.relay(1, 0, 9), Inside.DATA, 2, 1, 1));
+        x.deliver(1);
+        Check.is("END, DATA, and WINDOW for the second", x.count(0), 3);
         x.deliver(1);
         Check.is("not there at the client", x.circuit(0, 7), 0);
     }
 
-    private static void dataOrders() {
-        for (int stream : new int[] {0, 3, 4}) {
-            OnionCells x = Made.through(1);
+    /** "3 BEGIN of a stream: .. it is open, its count 0": after an odd count the next one is odd again. */
+    private static void beginAfterEnd() {
+        OnionCells x = Made.streaming(2, 0, 1);
+        x.send(0, 2, 1, 1);
+        x.end(0, 2);
+        x.deliver(100);
+        x.begin(0, 2, 0);
+        x.deliver(100);
+        x.send(0, 2, 1, 1);
+        x.deliver(1);
+        Check.is("DATA alone", x.count(0), 1);
+    }
+
+    /** "5 DATA of a stream: .. if not open: END of it." */
+    private static void dataOfOneNotOpen() {
+        for (int stream : new int[] {0, 1, 3, 4, 255}) {
+            OnionCells x = Made.streaming(2, 0, 1);
             int digest = x.relay(1, 0, 10);
             int wrapping = x.relay(1, 0, 8);
             forge(x, Inside.DATA, stream, 1, 5);
             x.deliver(1);
             Check.is("one answer", x.count(0), 1);
             backIs(x, 0, digest, wrapping, Inside.END, stream, 0);
+            Check.is("there still", x.relay(1, 0, 0), 1);
         }
-        for (int length : new int[] {2, 7, 8, 255}) {
+    }
+
+    /** "5 DATA ..: with the same length and each of the bytes (of the length, at most 7) xor 255". */
+    private static void dataOfAnyLength() {
+        for (int length : new int[] {0, 1, 2, 6, 7, 8, 255}) {
             OnionCells x = Made.streaming(2, 0, 1);
             int digest = x.relay(1, 0, 10);
             int wrapping = x.relay(1, 0, 8);
             forge(x, Inside.DATA, 2, length, 1, 2, 3, 4, 5, 6, 7);
             x.deliver(1);
-            if (length == 2) {
-                backIs(x, 0, digest, wrapping, Inside.DATA, 2, 2, 254, 253);
-            } else {
-                backIs(x, 0, digest, wrapping, Inside.DATA, 2, length, 254, 253, 252, 251, 250, 249, 248);
+            Check.is("one answer", x.count(0), 1);
+            int[] back = new int[Math.min(length, 7)];
+            for (int i = 0; i < back.length; i++) {
+                back[i] = 254 - i;
             }
-            x.deliver(1);
-            Check.is("the first byte", x.data(0, 0), 254);
-            Check.is("the seventh byte", x.data(0, 6), length == 2 ? -1 : 248);
-            Check.is("no eighth byte", x.data(0, 7), -1);
+            backIs(x, 0, digest, wrapping, Inside.DATA, 2, length, back);
         }
     }
 
-    private static void windowGoesBack() {
+    /** "its count becomes one more, and if that is even, WINDOW of it goes back, too, behind that". */
+    private static void windowBehindEverySecond() {
         OnionCells x = Made.streaming(2, 0, 1);
-        x.send(0, 2, 0, 0);
-        x.send(0, 2, 0, 0);
-        x.deliver(1);
-        int digest = x.relay(1, 0, 10);
-        int wrapping = x.relay(1, 0, 8);
-        x.deliver(1);
-        backIs(x, 1, digest, wrapping, Inside.DATA, 2, 0);
-        int[] echo = Inside.sealed(digest, Inside.DATA, 2, 0);
-        backIs(x, 2, Inside.digestAfter(digest, echo), Inside.keyAfterWrap(wrapping), Inside.WINDOW, 2, 0);
+        for (int sent = 1; sent <= 6; sent++) {
+            x.send(0, 2, 0, 0);
+            int digest = x.relay(1, 0, 10);
+            int wrapping = x.relay(1, 0, 8);
+            x.deliver(1);
+            Check.is("answers to DATA " + sent, x.count(0), sent % 2 == 0 ? 2 : 1);
+            backIs(x, 0, digest, wrapping, Inside.DATA, 2, 0);
+            if (sent % 2 == 0) {
+                int[] echo = Inside.sealed(digest, Inside.DATA, 2, 0);
+                backIs(x, 1, Inside.digestAfter(digest, echo), Inside.keyAfterWrap(wrapping), Inside.WINDOW, 2, 0);
+            }
+            x.deliver(2);
+        }
     }
 
+    /** "6 END: if open, it is not any more." */
     private static void endOrders() {
         OnionCells x = Made.streaming(2, 0, 1);
         forge(x, Inside.END, 2, 0);
@@ -401,16 +542,48 @@ public final class AtRelayTest {
         }
     }
 
-    private static void truncateOrders() {
-        OnionCells x = Made.through(1);
+    /** "8 TRUNCATE: DESTROY to .., if there is one": there is none. */
+    private static void truncateWithNone() {
+        OnionCells x = Made.streaming(3, 0, 1);
         int digest = x.relay(1, 0, 10);
         int wrapping = x.relay(1, 0, 8);
         x.truncate(0, 0);
         x.deliver(1);
         Check.is("TRUNCATED alone", x.count(0), 1);
         backIs(x, 0, digest, wrapping, Inside.TRUNCATED, 0, 0);
+        Check.is("its stream stays open", x.relay(1, 0, 6), 1);
     }
 
+    /** "8 TRUNCATE: DESTROY to the node behind ..; none is then; TRUNCATED goes back." */
+    private static void truncateWithOneBehind() {
+        OnionCells x = Made.streaming(3, 0, 1, 2);
+        int digest = x.relay(1, 0, 10);
+        int wrapping = x.relay(1, 0, 8);
+        x.truncate(0, 0);
+        x.deliver(1);
+        Check.is("DESTROY and TRUNCATED", x.count(0), 2);
+        headIs(x, 0, 1, 2, 4);
+        backIs(x, 1, digest, wrapping, Inside.TRUNCATED, 0, 0);
+        Check.is("none behind", x.relay(1, 0, 2), -1);
+        Check.is("its stream stays open", x.relay(1, 0, 6), 1);
+    }
+
+    /** "8 TRUNCATE: DESTROY to .. or else the one waited for ..; none is then; TRUNCATED goes back." */
+    private static void truncateWithOneWaitedFor() {
+        OnionCells x = Made.through(1);
+        x.extend(0, 4, 5);
+        x.truncate(0, 0);
+        int digest = x.relay(1, 0, 10);
+        int wrapping = x.relay(1, 0, 8);
+        x.deliver(2);
+        Check.is("CREATE, DESTROY and TRUNCATED", x.count(0), 3);
+        headIs(x, 1, 1, 4, 4);
+        backIs(x, 2, digest, wrapping, Inside.TRUNCATED, 0, 0);
+        Check.is("none is waited for", x.relay(1, 0, 3), -1);
+        Check.is("none behind", x.relay(1, 0, 2), -1);
+    }
+
+    /** "Others: the circuit is torn down." */
     private static void otherOrders() {
         for (int order : new int[] {0, 2, 4, 7, 9, 10, 255}) {
             OnionCells x = Made.streaming(2, 0, 1);
@@ -421,6 +594,7 @@ public final class AtRelayTest {
         }
     }
 
+    /** Promise 16: "(each NOBODY for none, or if it is not there)", "(0 if it is not there)". */
     private static void leavesNothingBehind() {
         OnionCells waiting = Made.streaming(1, 0, 1);
         waiting.extend(0, 2, 5);
@@ -447,13 +621,30 @@ public final class AtRelayTest {
         Check.is("the count is new", x.count(0), 1);
     }
 
-    private static void relayRefuses() {
-        OnionCells x = new OnionCells();
-        Check.index("relay(0, 0, 0)", () -> x.relay(0, 0, 0));
-        Check.index("relay(5, 0, 0)", () -> x.relay(5, 0, 0));
-        Check.index("relay(1, 4, 0)", () -> x.relay(1, 4, 0));
-        Check.index("relay(1, -1, 0)", () -> x.relay(1, -1, 0));
-        Check.index("relay(1, 0, 11)", () -> x.relay(1, 0, 11));
-        Check.index("relay(1, 0, -1)", () -> x.relay(1, 0, -1));
+    /** Promise 16: "1 the node before, 2 the one behind, 3 the one waited for (each NOBODY for none ..)". */
+    private static void relayTellsEachHop() {
+        OnionCells x = Made.through(4, 1, 3);
+        relayIs(x, 4, 1, 0, 1, -1);
+        relayIs(x, 1, 1, 4, 3, -1);
+        relayIs(x, 3, 1, 1, -1, -1);
+        relayIs(x, 2, 0, -1, -1, -1);
+        OnionCells extending = Made.through(4, 1);
+        extending.extend(0, 2, 5);
+        extending.deliver(2);
+        relayIs(extending, 4, 1, 0, 1, -1);
+        relayIs(extending, 1, 1, 4, -1, 2);
+        extending.deliver(1);
+        relayIs(extending, 2, 1, 1, -1, -1);
+        extending.deliver(1);
+        relayIs(extending, 1, 1, 4, 2, -1);
+        for (int circuit = 1; circuit < 4; circuit++) {
+            Check.is("another circuit is not there", x.relay(4, circuit, 0), 0);
+        }
+    }
+
+    private static void relayIs(OnionCells x, int relay, int... due) {
+        for (int what = 0; what < due.length; what++) {
+            Check.is("relay(" + relay + ", 0, " + what + ")", x.relay(relay, 0, what), due[what]);
+        }
     }
 }

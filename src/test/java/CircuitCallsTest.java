@@ -5,24 +5,21 @@ public final class CircuitCallsTest {
 
     public static void main(String[] args) {
         secretAnswersTheKey();
-        secretRefuses();
         secretCountsInTheAgreement();
         createSends();
-        createRefuses();
-        createsAnsweredCount();
         createAnewForgets();
         extendSends();
         extendedAgreement();
-        extendRefuses();
         truncateSends();
         truncateCutsOff();
         truncateEndsBuilding();
-        truncateRefuses();
         closeSends();
         closeWithoutHop();
         closeWhileExtending();
-        closeRefuses();
-        viewsRefuse();
+        circuitTellsHops();
+        circuitTellsTheOneWaitedFor();
+        circuitTellsWindows();
+        keysOfAClosedOne();
         Check.finish();
     }
 
@@ -32,31 +29,6 @@ public final class CircuitCallsTest {
         Check.is("secret(2, 2)", x.secret(2, 2), 289);
         Check.is("secret(3, 65519)", x.secret(3, 65519), Inside.raise(17, 65519));
         Check.is("secret(4, 4242)", x.secret(4, 4242), 50290);
-    }
-
-    private static void secretRefuses() {
-        OnionCells x = new OnionCells();
-        Check.index("secret(0, 0)", () -> x.secret(0, 0));
-        Check.index("secret(5, 1)", () -> x.secret(5, 1));
-        Check.index("secret(-1, 1)", () -> x.secret(-1, 1));
-        Check.argument("secret(1, 0)", () -> x.secret(1, 0));
-        Check.argument("secret(1, 65520)", () -> x.secret(1, 65520));
-        Check.argument("secret(1, -5)", () -> x.secret(1, -5));
-        x.create(3, 1, 5);
-        Check.is("secret while CREATE is on its way", x.secret(1, 7), Inside.raise(17, 7));
-        x.deliver(1);
-        Check.argument("secret(1, 0) of a used relay", () -> x.secret(1, 0));
-        Check.state("secret of a used relay", () -> x.secret(1, 8));
-        Check.is("secret of another relay", x.secret(2, 8), Inside.raise(17, 8));
-        x.close(3);
-        x.deliver(2);
-        Check.is("secret of a relay that is free again", x.secret(1, 8), Inside.raise(17, 8));
-        for (int circuit = 0; circuit < 4; circuit++) {
-            OnionCells y = new OnionCells();
-            y.create(circuit, 3, 5);
-            y.deliver(1);
-            Check.state("secret with circuit " + circuit, () -> y.secret(3, 8));
-        }
     }
 
     private static void secretCountsInTheAgreement() {
@@ -107,41 +79,6 @@ public final class CircuitCallsTest {
             Check.is("cell(" + i + ", " + what + ")", x.cell(i, what), due);
         }
         Check.is("its distance", x.cell(i, 18), 0);
-    }
-
-    private static void createRefuses() {
-        OnionCells x = new OnionCells();
-        Check.index("create(4, 1, 0)", () -> x.create(4, 1, 0));
-        Check.index("create(-1, 1, 1)", () -> x.create(-1, 1, 1));
-        Check.index("create(0, 0, 1)", () -> x.create(0, 0, 1));
-        Check.index("create(0, 5, 1)", () -> x.create(0, 5, 1));
-        Check.argument("create(0, 1, 0)", () -> x.create(0, 1, 0));
-        Check.argument("create(0, 1, 65520)", () -> x.create(0, 1, 65520));
-        Check.is("nothing was sent", x.count(0), 0);
-        x.create(0, 1, 1);
-        Check.argument("create(0, 1, 0) of one BUILDING", () -> x.create(0, 1, 0));
-        Check.state("create of one BUILDING", () -> x.create(0, 2, 1));
-        x.deliver(2);
-        Check.state("create of one READY", () -> x.create(0, 2, 1));
-        Check.is("nothing was sent then", x.count(0), 0);
-    }
-
-    private static void createsAnsweredCount() {
-        OnionCells x = new OnionCells();
-        int publicX = Inside.raise(17, 6);
-        for (int answered = 0; answered < 3; answered++) {
-            x.create(answered, 4, 6);
-            x.deliver(2);
-            keysAre(x, answered, 0, 4, Inside.agreed(4, 4000, publicX, answered));
-        }
-        x.create(3, 4, 6);
-        x.damage(0, 0, x.cell(0, 4));
-        x.damage(0, 1, x.cell(0, 5));
-        x.deliver(2);
-        Check.is("closed by the DESTROY that answers X 0", x.circuit(3, 0), OnionCells.CLOSED);
-        x.create(3, 4, 6);
-        x.deliver(2);
-        keysAre(x, 3, 0, 4, Inside.agreed(4, 4000, publicX, 3));
     }
 
     private static void createAnewForgets() {
@@ -211,26 +148,6 @@ public final class CircuitCallsTest {
         Check.is("both ends have the first hop's key 3", x.key(0, 0, 3), x.relay(1, 0, 10));
     }
 
-    private static void extendRefuses() {
-        OnionCells x = Made.through(1, 2, 3);
-        Check.index("extend(4, 4, 0)", () -> x.extend(4, 4, 0));
-        Check.index("extend(0, 0, 5)", () -> x.extend(0, 0, 5));
-        Check.index("extend(0, 5, 5)", () -> x.extend(0, 5, 5));
-        Check.argument("extend(0, 4, 0)", () -> x.extend(0, 4, 0));
-        Check.argument("extend(0, 4, 65520)", () -> x.extend(0, 4, 65520));
-        Check.argument("extend to a hop", () -> x.extend(0, 3, 5));
-        Check.state("extend of three hops", () -> x.extend(0, 4, 5));
-        Check.state("extend of NONE", () -> x.extend(1, 1, 5));
-        x.close(0);
-        Check.argument("extend to a hop of a CLOSED one", () -> x.extend(0, 1, 5));
-        Check.state("extend of CLOSED", () -> x.extend(0, 4, 5));
-        OnionCells y = Made.through(1);
-        y.extend(0, 2, 5);
-        Check.argument("extend to a hop of one BUILDING", () -> y.extend(0, 1, 5));
-        Check.state("extend of one BUILDING", () -> y.extend(0, 2, 5));
-        Check.is("only one cell was sent", y.count(0), 1);
-    }
-
     private static void truncateSends() {
         OnionCells x = Made.through(1, 2);
         int digest = x.key(0, 0, 2);
@@ -285,19 +202,6 @@ public final class CircuitCallsTest {
         Check.is("gone at the one that was waited for", x.relay(2, 0, 0), 0);
     }
 
-    private static void truncateRefuses() {
-        OnionCells x = Made.through(1, 2);
-        Check.index("truncate(4, 9)", () -> x.truncate(4, 9));
-        Check.index("truncate(-1, 0)", () -> x.truncate(-1, 0));
-        Check.state("truncate(0, 2)", () -> x.truncate(0, 2));
-        Check.state("truncate(0, -1)", () -> x.truncate(0, -1));
-        Check.state("truncate of NONE", () -> x.truncate(1, 0));
-        x.create(1, 1, 4);
-        Check.state("truncate without hops", () -> x.truncate(1, 0));
-        x.close(0);
-        Check.state("truncate of CLOSED", () -> x.truncate(0, 0));
-    }
-
     private static void closeSends() {
         OnionCells x = Made.streaming(3, 0, 1, 2);
         int kept = x.key(0, 1, 2);
@@ -344,26 +248,78 @@ public final class CircuitCallsTest {
         Check.is("gone at relay 2", x.relay(2, 0, 0), 0);
     }
 
-    private static void closeRefuses() {
-        OnionCells x = Made.through(1);
-        Check.index("close(4)", () -> x.close(4));
-        Check.index("close(-1)", () -> x.close(-1));
-        Check.state("close of NONE", () -> x.close(1));
-        x.close(0);
-        Check.state("close of CLOSED", () -> x.close(0));
-        Check.is("one DESTROY alone", x.count(0), 1);
+    private static void circuitIs(OnionCells x, String what, int... due) {
+        for (int i = 0; i < due.length; i++) {
+            Check.is("circuit(0, " + i + ") " + what, x.circuit(0, i), due[i]);
+        }
     }
 
-    private static void viewsRefuse() {
-        OnionCells x = Made.through(1);
-        Check.index("circuit(4, 0)", () -> x.circuit(4, 0));
-        Check.index("circuit(-1, 0)", () -> x.circuit(-1, 0));
-        Check.index("circuit(0, 12)", () -> x.circuit(0, 12));
-        Check.index("circuit(0, -1)", () -> x.circuit(0, -1));
-        Check.index("key(4, 0, 0)", () -> x.key(4, 0, 0));
-        Check.index("key(0, 1, 0)", () -> x.key(0, 1, 0));
-        Check.index("key(0, -1, 0)", () -> x.key(0, -1, 0));
-        Check.index("key(0, 0, 4)", () -> x.key(0, 0, 4));
-        Check.index("key(0, 0, -1)", () -> x.key(0, 0, -1));
+    /** Promise 14: "2 + k the relay of hop k (NOBODY if there is none)": none, one, two, three, CLOSED and anew. */
+    private static void circuitTellsHops() {
+        circuitIs(new OnionCells(), "of NONE", 0, 0, -1, -1, -1, -1);
+        circuitIs(Made.through(4), "of one hop", 2, 1, 4, -1, -1, -1);
+        circuitIs(Made.through(4, 1), "of two hops", 2, 2, 4, 1, -1, -1);
+        OnionCells x = Made.through(4, 1, 3);
+        circuitIs(x, "of three hops", 2, 3, 4, 1, 3, -1);
+        x.close(0);
+        circuitIs(x, "of a CLOSED one", 3, 3, 4, 1, 3, -1);
+        x.create(0, 2, 5);
+        circuitIs(x, "of one begun anew", 1, 0, -1, -1, -1, 2);
+        x.close(0);
+        circuitIs(x, "of one CLOSED without hops", 3, 0, -1, -1, -1, -1);
+    }
+
+    /** Promise 14: "5 the relay that it waits for (NOBODY unless BUILDING)". */
+    private static void circuitTellsTheOneWaitedFor() {
+        OnionCells x = new OnionCells();
+        x.create(0, 4, 5);
+        circuitIs(x, "of one BUILDING", 1, 0, -1, -1, -1, 4);
+        x.deliver(2);
+        circuitIs(x, "of one READY", 2, 1, 4, -1, -1, -1);
+        x.extend(0, 1, 5);
+        circuitIs(x, "of one BUILDING with a hop", 1, 1, 4, -1, -1, 1);
+        x.close(0);
+        circuitIs(x, "of one CLOSED while BUILDING", 3, 1, 4, -1, -1, -1);
+    }
+
+    /** Promise 14: "5 + s the state of stream s, 8 + s its window (0 unless OPEN)". */
+    private static void circuitTellsWindows() {
+        for (int s = 1; s <= 3; s++) {
+            OnionCells x = Made.through(1);
+            streamIs(x, s, 0, 0);
+            x.begin(0, s, 0);
+            streamIs(x, s, 1, 0);
+            x.deliver(2);
+            streamIs(x, s, 2, 4);
+            for (int left = 3; left >= 0; left--) {
+                x.send(0, s, 1, 1);
+                streamIs(x, s, 2, left);
+            }
+            x.deliver(100);
+            streamIs(x, s, 2, 4);
+            x.end(0, s);
+            streamIs(x, s, 0, 0);
+        }
+    }
+
+    private static void streamIs(OnionCells x, int stream, int state, int window) {
+        for (int s = 1; s <= 3; s++) {
+            Check.is("state of stream " + s, x.circuit(0, 5 + s), s == stream ? state : 0);
+            Check.is("window of stream " + s, x.circuit(0, 8 + s), s == stream ? window : 0);
+        }
+    }
+
+    /** Promise 15: "Key k (0 .. 3, as it is now) of a hop (of a CLOSED circuit, too)". */
+    private static void keysOfAClosedOne() {
+        OnionCells x = Made.through(1, 2, 3);
+        int[] keys = new int[12];
+        for (int i = 0; i < 12; i++) {
+            keys[i] = x.key(0, i / 4, i % 4);
+        }
+        x.close(0);
+        x.deliver(100);
+        for (int i = 0; i < 12; i++) {
+            Check.is("key(0, " + i / 4 + ", " + i % 4 + ") of a CLOSED one", x.key(0, i / 4, i % 4), keys[i]);
+        }
     }
 }

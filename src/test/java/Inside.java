@@ -60,6 +60,16 @@ final class Inside {
         return bytes;
     }
 
+    /** A byte becomes another, and the check fits again. */
+    static int[] resealed(int key, int[] sealed, int at, int value) {
+        int[] bytes = sealed.clone();
+        bytes[at] = value;
+        int check = digestAfter(key, bytes) >>> 16;
+        bytes[2] = check >> 8;
+        bytes[3] = check & 255;
+        return bytes;
+    }
+
     static int digestAfter(int key, int[] sealed) {
         int[] unchecked = sealed.clone();
         unchecked[2] = 0;

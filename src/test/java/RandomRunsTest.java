@@ -1,8 +1,4 @@
-import java.lang.reflect.InvocationTargetException;
-import java.lang.reflect.Method;
 import java.util.Arrays;
-import java.util.HashMap;
-import java.util.Map;
 import java.util.Random;
 
 /** Runs of at most 512 calls, drawn with fixed seeds, answered by the program as by the model. */
@@ -15,8 +11,6 @@ public final class RandomRunsTest {
         "close", "deliver", "damage", "lose", "cell", "circuit", "key", "relay", "data", "count", "loss"};
 
     private final Random random;
-    private final Map<String, Method> ofProgram;
-    private final Map<String, Method> ofModel;
     private final OnionCells program = new OnionCells();
     private final Model model = new Model();
     private final int run;
@@ -24,32 +18,17 @@ public final class RandomRunsTest {
     private int calls = 0;
     private boolean same = true;
 
-    private RandomRunsTest(int run, Map<String, Method> ofProgram, Map<String, Method> ofModel) {
+    private RandomRunsTest(int run) {
         this.run = run;
         this.random = new Random(run);
-        this.ofProgram = ofProgram;
-        this.ofModel = ofModel;
         this.roughness = run % 4;
     }
 
     public static void main(String[] args) {
-        Map<String, Method> ofProgram = methods(OnionCells.class);
-        Map<String, Method> ofModel = methods(Model.class);
         for (int run = 0; run < RUNS; run++) {
-            new RandomRunsTest(run, ofProgram, ofModel).play();
+            new RandomRunsTest(run).play();
         }
         Check.finish();
-    }
-
-    private static Map<String, Method> methods(Class<?> owner) {
-        Map<String, Method> found = new HashMap<>();
-        for (Method each : owner.getDeclaredMethods()) {
-            if (Arrays.asList(CALL_NAMES).contains(each.getName())) {
-                each.setAccessible(true);
-                found.put(each.getName(), each);
-            }
-        }
-        return found;
     }
 
     private void play() {
@@ -157,7 +136,7 @@ public final class RandomRunsTest {
 
     /** Any arguments, most of them wrong ones. */
     private void call(String name) {
-        int[] arguments = new int[ofProgram.get(name).getParameterCount()];
+        int[] arguments = new int[Call.method(OnionCells.class, name).getParameterCount()];
         for (int i = 0; i < arguments.length; i++) {
             arguments[i] = VALUES[random.nextInt(VALUES.length)];
         }
@@ -169,20 +148,11 @@ public final class RandomRunsTest {
             return;
         }
         calls++;
-        String got = answer(ofProgram.get(name), program, arguments);
-        String due = answer(ofModel.get(name), model, arguments);
+        Call call = new Call(name, arguments);
+        String got = call.on(program);
+        String due = call.on(model);
         same = got.equals(due);
-        Check.holds("run " + run + ", call " + calls + ": " + name + Arrays.toString(arguments) + " answered " + got
-                + ", the model " + due + ": that they are the same", same);
-    }
-
-    private static String answer(Method method, Object object, int[] arguments) {
-        try {
-            return String.valueOf(method.invoke(object, Arrays.stream(arguments).boxed().toArray()));
-        } catch (InvocationTargetException thrown) {
-            return thrown.getCause().getClass().getSimpleName();
-        } catch (IllegalAccessException impossible) {
-            throw new IllegalStateException(impossible);
-        }
+        Check.holds("run " + run + ", call " + calls + ": " + call + " answered " + got + ", the model " + due
+                + ": that they are the same", same);
     }
 }

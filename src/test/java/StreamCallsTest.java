@@ -5,18 +5,16 @@ public final class StreamCallsTest {
 
     public static void main(String[] args) {
         beginAsks();
-        beginRefuses();
         sendSends();
+        sendOfEveryLength();
         sendWraps();
         sendOfNothing();
         sendWhileBuilding();
         windowRuns();
-        sendRefuses();
         endOfAsked();
         endOfOpen();
-        endRefuses();
         dataAreTheLatest();
-        dataRefuse();
+        dataOfNone();
         Check.finish();
     }
 
@@ -48,25 +46,6 @@ public final class StreamCallsTest {
         Check.is("the others are not there", x.circuit(0, 6) + x.circuit(0, 7), 0);
     }
 
-    private static void beginRefuses() {
-        OnionCells x = Made.through(1, 2);
-        Check.index("begin(4, 1, 0)", () -> x.begin(4, 1, 0));
-        Check.index("begin(-1, 1, 0)", () -> x.begin(-1, 1, 0));
-        Check.index("begin(0, 0, 0)", () -> x.begin(0, 0, 0));
-        Check.index("begin(0, 4, 0)", () -> x.begin(0, 4, 0));
-        Check.state("begin(0, 1, 2)", () -> x.begin(0, 1, 2));
-        Check.state("begin(0, 1, -1)", () -> x.begin(0, 1, -1));
-        Check.state("begin of NONE", () -> x.begin(1, 1, 0));
-        x.begin(0, 1, 0);
-        Check.state("begin of one ASKED", () -> x.begin(0, 1, 1));
-        x.deliver(100);
-        Check.state("begin of one OPEN", () -> x.begin(0, 1, 0));
-        x.extend(0, 3, 5);
-        Check.state("begin while BUILDING", () -> x.begin(0, 2, 0));
-        x.close(0);
-        Check.state("begin of CLOSED", () -> x.begin(0, 2, 0));
-    }
-
     private static void sendSends() {
         OnionCells x = Made.streaming(2, 0, 3);
         int digest = x.key(0, 0, 2);
@@ -85,6 +64,27 @@ public final class StreamCallsTest {
         Check.is("data 2", x.data(0, 2), 255);
         Check.is("data 3", x.data(0, 3), -1);
         Check.is("data -1", x.data(0, -1), -1);
+    }
+
+    /** "n bytes (perhaps none) v, v + 1, .. (modulo 256)"; "the others are 0 when it is sent". */
+    private static void sendOfEveryLength() {
+        for (int n = 0; n <= 7; n++) {
+            for (int v : new int[] {0, 249, 250, 255}) {
+                OnionCells x = Made.streaming(2, 0, 3);
+                int digest = x.key(0, 0, 2);
+                int outer = x.key(0, 0, 0);
+                Check.is("send of " + n, x.send(0, 2, n, v), 3);
+                int[] bytes = new int[n];
+                for (int i = 0; i < n; i++) {
+                    bytes[i] = v + i < 256 ? v + i : v + i - 256;
+                }
+                insideIs(x, outer, Inside.sealed(digest, Inside.DATA, 2, n, bytes));
+                x.deliver(2);
+                for (int i = 0; i < 8; i++) {
+                    Check.is("byte " + i + " of " + n, x.data(0, i), i < n ? 255 - bytes[i] : -1);
+                }
+            }
+        }
     }
 
     private static void sendWraps() {
@@ -117,6 +117,7 @@ public final class StreamCallsTest {
         }
     }
 
+    /** "n bytes (perhaps none)": the data that come then are the latest, and there are none. */
     private static void sendOfNothing() {
         OnionCells x = Made.streaming(1, 0, 1);
         x.send(0, 1, 2, 7);
@@ -136,6 +137,7 @@ public final class StreamCallsTest {
         Check.is("READY with two hops", x.circuit(0, 1), 2);
     }
 
+    /** "its window becomes 1 less: how much that is", down to 0; "its window becomes 2 more". */
     private static void windowRuns() {
         OnionCells x = Made.streaming(1, 0, 1);
         for (int left = 3; left >= 0; left--) {
@@ -160,24 +162,6 @@ public final class StreamCallsTest {
         x.send(0, 1, 1, 1);
         x.deliver(100);
         Check.is("the count begins anew", x.circuit(0, 9), 3);
-    }
-
-    private static void sendRefuses() {
-        OnionCells x = Made.streaming(1, 0, 1);
-        Check.index("send(4, 1, 9, 0)", () -> x.send(4, 1, 9, 0));
-        Check.index("send(0, 0, 1, 0)", () -> x.send(0, 0, 1, 0));
-        Check.index("send(0, 4, 1, 0)", () -> x.send(0, 4, 1, 0));
-        Check.argument("send(0, 1, 8, 0)", () -> x.send(0, 1, 8, 0));
-        Check.argument("send(0, 1, -1, 0)", () -> x.send(0, 1, -1, 0));
-        Check.argument("send(0, 1, 1, 256)", () -> x.send(0, 1, 1, 256));
-        Check.argument("send(0, 1, 0, -1)", () -> x.send(0, 1, 0, -1));
-        Check.argument("send(0, 2, 8, 0) of none", () -> x.send(0, 2, 8, 0));
-        Check.state("send of a stream that is not there", () -> x.send(0, 2, 1, 0));
-        x.begin(0, 2, 0);
-        Check.state("send of one ASKED", () -> x.send(0, 2, 1, 0));
-        x.close(0);
-        Check.state("send of CLOSED", () -> x.send(0, 1, 1, 0));
-        Check.is("BEGIN and DESTROY alone", x.count(0), 2);
     }
 
     private static void endOfAsked() {
@@ -210,18 +194,6 @@ public final class StreamCallsTest {
         Check.is("begun anew, at another hop", x.relay(1, 0, 6), 1);
     }
 
-    private static void endRefuses() {
-        OnionCells x = Made.streaming(1, 0, 1);
-        Check.index("end(4, 1)", () -> x.end(4, 1));
-        Check.index("end(-1, 1)", () -> x.end(-1, 1));
-        Check.index("end(0, 0)", () -> x.end(0, 0));
-        Check.index("end(0, 4)", () -> x.end(0, 4));
-        Check.state("end of a stream that is not there", () -> x.end(0, 2));
-        x.end(0, 1);
-        Check.state("end twice", () -> x.end(0, 1));
-        Check.is("one END alone", x.count(0), 1);
-    }
-
     private static void dataAreTheLatest() {
         OnionCells x = Made.streaming(1, 0, 1, 2);
         x.begin(0, 2, 1);
@@ -240,11 +212,25 @@ public final class StreamCallsTest {
         Check.is("kept when it is CLOSED", x.data(0, 0), 246);
     }
 
-    private static void dataRefuse() {
-        OnionCells x = new OnionCells();
-        Check.index("data(4, 0)", () -> x.data(4, 0));
-        Check.index("data(-1, 0)", () -> x.data(-1, 0));
-        Check.is("data(0, MAX)", x.data(0, Integer.MAX_VALUE), -1);
-        Check.is("data(0, MIN)", x.data(0, Integer.MIN_VALUE), -1);
+    /** "NOBODY if there is none (any i)". */
+    private static void dataOfNone() {
+        int[] any = {Integer.MIN_VALUE, -1, 0, 1, 6, 7, 14, Integer.MAX_VALUE};
+        OnionCells none = new OnionCells();
+        OnionCells two = Made.streaming(1, 0, 1);
+        two.send(0, 1, 2, 0);
+        two.deliver(2);
+        for (int i : any) {
+            for (int circuit = 0; circuit < 4; circuit++) {
+                Check.is("data(" + circuit + ", " + i + ") of a new one", none.data(circuit, i), -1);
+            }
+            Check.is("data(0, " + i + ") of two", two.data(0, i), i == 0 ? 255 : i == 1 ? 254 : -1);
+            Check.is("data(1, " + i + ") of another circuit", two.data(1, i), -1);
+        }
+        two.close(0);
+        Check.is("kept when it is CLOSED", two.data(0, 0), 255);
+        two.create(0, 1, 7);
+        for (int i : any) {
+            Check.is("data(0, " + i + ") of one begun anew", two.data(0, i), -1);
+        }
     }
 }
