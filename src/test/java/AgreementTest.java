@@ -1,4 +1,4 @@
-/** The edges of the agreement and of the arithmetic (terms): the modulus, wrap-arounds, pairs, how many were answered. */
+/** The edges of the agreement and of the arithmetic (terms): the modulus, wrap-arounds, pairs, CREATEs answered. */
 public final class AgreementTest {
     private static final int MODULUS = 65521;
     private static final int[] NODES = {1, 2, 3, 4};
@@ -154,6 +154,7 @@ public final class AgreementTest {
         agreed("third at relay 1, though one is gone", x, 1, 1, 1000, 6, 2);
     }
 
+    /** "how many CREATEs it has answered before": one that was STRAY is none of them. */
     private static void strayIsNotAnswered() {
         OnionCells x = Made.through(1);
         x.close(0);
@@ -179,6 +180,7 @@ public final class AgreementTest {
         agreed("CREATE after one with X 0", x, 0, 4, 4000, 6, 0);
     }
 
+    /** "how many CREATEs it has answered before": also if the answer did not come. */
     private static void lostAnswerCounts() {
         OnionCells x = new OnionCells();
         x.create(0, 4, 6);

@@ -171,7 +171,7 @@ public final class AtRelayTest {
         headIs(x, 0, 3, 2, 4);
     }
 
-    /** "if its distance is above 0 and there is a node behind ..; otherwise the circuit is torn down": there is none. */
+    /** "if its distance is above 0 and there is a node behind ..; otherwise .. torn down": there is none. */
     private static void distanceWithoutNodeBehind() {
         OnionCells x = Made.through(1, 2);
         x.truncate(0, 0);
@@ -255,7 +255,7 @@ public final class AtRelayTest {
         Check.is("nothing else is stray", x.count(3), 1);
     }
 
-    /** "DESTROY .. from the node before: it goes on to the node behind, or else the one waited for, if there is one". */
+    /** "DESTROY .. from the node before: it goes on to the node behind, or else .. waited for, if there is one". */
     private static void destroyFromBefore() {
         OnionCells behind = Made.through(1, 2);
         behind.close(0);
@@ -396,7 +396,7 @@ public final class AtRelayTest {
         }
     }
 
-    /** "1 EXTEND, data: a node and a pair X: if that is a relay 1 .. 4 ..: CREATE with X to it, and it is waited for". */
+    /** "1 EXTEND, data: a node and a pair X: if that is a relay ..: CREATE with X to it, and it is waited for". */
     private static void extendThatFits() {
         for (int to = 2; to <= 4; to++) {
             OnionCells x = Made.through(1);

@@ -23,6 +23,7 @@ public final class CircuitCallsTest {
         Check.finish();
     }
 
+    /** Promise 2: "A relay's secret becomes b: its KEY B." */
     private static void secretAnswersTheKey() {
         OnionCells x = new OnionCells();
         Check.is("secret(1, 1)", x.secret(1, 1), 17);
@@ -46,6 +47,7 @@ public final class CircuitCallsTest {
         }
     }
 
+    /** Promise 3: "CREATE, with the client's exponent x, to a relay, which it waits for; BUILDING: how many cells". */
     private static void createSends() {
         OnionCells x = new OnionCells();
         Check.is("create(2, 3, 65519)", x.create(2, 3, 65519), 1);
@@ -81,6 +83,7 @@ public final class CircuitCallsTest {
         Check.is("its distance", x.cell(i, 18), 0);
     }
 
+    /** Promise 3: "A circuit that is NONE or CLOSED is begun anew, without hops and streams". */
     private static void createAnewForgets() {
         OnionCells x = Made.streaming(1, 1, 1, 2);
         x.send(0, 1, 3, 3);
@@ -96,6 +99,7 @@ public final class CircuitCallsTest {
         Check.index("no keys", () -> x.key(0, 0, 0));
     }
 
+    /** Promise 4: "EXTEND, with the exponent x, to the last hop of a READY circuit, which waits for that relay". */
     private static void extendSends() {
         OnionCells x = Made.through(1, 2);
         int digest = x.key(0, 1, 2);
@@ -148,6 +152,7 @@ public final class CircuitCallsTest {
         Check.is("both ends have the first hop's key 3", x.key(0, 0, 3), x.relay(1, 0, 10));
     }
 
+    /** Promise 8: "how many hops it has (still)". */
     private static void truncateSends() {
         OnionCells x = Made.through(1, 2);
         int digest = x.key(0, 0, 2);
@@ -188,6 +193,7 @@ public final class CircuitCallsTest {
         Check.is("the new third", x.circuit(0, 4), 4);
     }
 
+    /** Promise 8: "TRUNCATE to a hop of a circuit that is READY or BUILDING". */
     private static void truncateEndsBuilding() {
         OnionCells x = Made.through(1);
         x.extend(0, 2, 5);
@@ -202,6 +208,7 @@ public final class CircuitCallsTest {
         Check.is("gone at the one that was waited for", x.relay(2, 0, 0), 0);
     }
 
+    /** "CLOSING ..: DESTROY to its first hop ..; it is CLOSED, its streams are not there, its hops are kept." */
     private static void closeSends() {
         OnionCells x = Made.streaming(3, 0, 1, 2);
         int kept = x.key(0, 1, 2);
@@ -222,6 +229,7 @@ public final class CircuitCallsTest {
         Check.is("nothing stray", x.count(3), 0);
     }
 
+    /** "CLOSING ..: DESTROY to .. (to the relay that it waits for, if it has no hop yet)". */
     private static void closeWithoutHop() {
         OnionCells x = new OnionCells();
         x.create(1, 3, 5);
@@ -235,6 +243,7 @@ public final class CircuitCallsTest {
         Check.is("gone at relay 3", x.relay(3, 1, 0), 0);
     }
 
+    /** "CLOSING ..: DESTROY to its first hop", not to the relay that it waits for, if it has one. */
     private static void closeWhileExtending() {
         OnionCells x = Made.through(1);
         x.extend(0, 2, 5);

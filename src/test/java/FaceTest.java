@@ -95,6 +95,7 @@ public final class FaceTest {
         Check.is("CLOSED", OnionCells.CLOSED, 3);
     }
 
+    /** Promise 1: "No cells, no circuits." */
     private static void newObject() {
         OnionCells x = new OnionCells();
         for (int what = 0; what < 5; what++) {

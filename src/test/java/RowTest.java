@@ -21,6 +21,7 @@ public final class RowTest {
         Check.finish();
     }
 
+    /** "those sent first first"; "The first n cells come, one by one". */
     private static void deliverInOrder() {
         OnionCells x = new OnionCells();
         x.create(0, 1, 3);
@@ -145,6 +146,7 @@ public final class RowTest {
         Check.is("the others came", x.count(4), 2);
     }
 
+    /** "those behind it have a number less": none is behind the last, all are behind the first. */
     private static void loseOfFirstAndLast() {
         OnionCells x = new OnionCells();
         for (int circuit = 0; circuit < 4; circuit++) {
@@ -209,6 +211,7 @@ public final class RowTest {
         Check.is("distance of CREATED", x.cell(19, 18), 0);
     }
 
+    /** "0 cells on their way, 1 that came since the beginning, 2 that were lost, 3 that were STRAY, 4 .. READY." */
     private static void countCounts() {
         OnionCells x = Made.through(1);
         Made.lay(x, 1, 2);

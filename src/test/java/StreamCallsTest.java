@@ -25,6 +25,7 @@ public final class StreamCallsTest {
         }
     }
 
+    /** Promise 5: "BEGIN of a stream to a hop of a READY circuit; it is ASKED, of that hop." */
     private static void beginAsks() {
         OnionCells x = Made.through(2, 4);
         int digest = x.key(0, 0, 2);
@@ -87,6 +88,7 @@ public final class StreamCallsTest {
         }
     }
 
+    /** "with the distance k", "with a distance 1 less", "with a distance 1 more": 2 .. 0, and 0 .. 2. */
     private static void sendWraps() {
         OnionCells x = Made.streaming(1, 2, 1, 2, 3);
         x.send(0, 1, 7, 10);
@@ -128,6 +130,7 @@ public final class StreamCallsTest {
         Check.is("the latest data are none", x.data(0, 0), -1);
     }
 
+    /** Promise 6: "DATA of an OPEN stream (of a circuit that is READY or BUILDING)". */
     private static void sendWhileBuilding() {
         OnionCells x = Made.streaming(1, 0, 1);
         x.extend(0, 2, 5);
@@ -164,6 +167,7 @@ public final class StreamCallsTest {
         Check.is("the count begins anew", x.circuit(0, 9), 3);
     }
 
+    /** Promise 7: "END of a stream that is there (ASKED or OPEN) ..; it is not there then: which state it had." */
     private static void endOfAsked() {
         OnionCells x = Made.through(1);
         x.begin(0, 2, 0);
@@ -180,6 +184,7 @@ public final class StreamCallsTest {
         Check.is("the circuit stays", x.circuit(0, 0), OnionCells.READY);
     }
 
+    /** The same of one OPEN; it can be begun at another hop then. */
     private static void endOfOpen() {
         OnionCells x = Made.streaming(3, 1, 1, 2);
         Check.is("end of one OPEN", x.end(0, 3), 2);
@@ -194,6 +199,7 @@ public final class StreamCallsTest {
         Check.is("begun anew, at another hop", x.relay(1, 0, 6), 1);
     }
 
+    /** Promise 17: "the data that came latest for a circuit", of any of its streams. */
     private static void dataAreTheLatest() {
         OnionCells x = Made.streaming(1, 0, 1, 2);
         x.begin(0, 2, 1);
